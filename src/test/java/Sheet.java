@@ -1,0 +1,47 @@
+/** Keeps what is wrong, for a test that prints it and then ends with exit code 1. */
+final class Sheet {
+    private static final int MOST_PRINTED = 40;
+
+    private final String test;
+    private int asked;
+    private int wrong;
+
+    Sheet(String test) {
+        this.test = test;
+    }
+
+    void due(String call, long got, long want) {
+        asked++;
+        if (got != want) {
+            tell(call + " answered " + got + ", due is " + want);
+        }
+    }
+
+    void due(String call, boolean got, boolean want) {
+        asked++;
+        if (got != want) {
+            tell(call + " answered " + got + ", due is " + want);
+        }
+    }
+
+    void tell(String fault) {
+        wrong++;
+        if (wrong <= MOST_PRINTED) {
+            System.out.println(test + ": " + fault);
+        }
+    }
+
+    boolean isFull() {
+        return wrong >= MOST_PRINTED;
+    }
+
+    void end() {
+        if (asked == 0) {
+            tell("nothing was asked");
+        }
+        System.out.println(wrong == 0 ? asked + " answers are as due" : wrong + " answers are not as due");
+        if (wrong != 0) {
+            System.exit(1);
+        }
+    }
+}
