@@ -92,18 +92,18 @@ public final class SecretLoom {
     }
 
     public int check() {
-        return isTyped() ? types.firstUnsafe() + 1 : NONE;
+        return isWellFormed() ? typesNow().firstUnsafe() + 1 : NONE;
     }
 
     public int surrounding(int place) {
-        return isTyped() && shape.isMet(place) ? types.surroundingAt(place) : NONE;
+        return isWellFormed() && shape.isMet(place) ? typesNow().surroundingAt(place) : NONE;
     }
 
     public int pile(int place, int i) {
-        if (!isTyped() || !shape.isMet(place) || i < 0 || i >= shape.heightAt(place)) {
+        if (!isWellFormed() || !isBetween(i, shape.heightAt(place))) {
             return NONE;
         }
-        return types.levelOnPile(place, i);
+        return typesNow().levelOnPile(place, i);
     }
 
     public int junction(int place) {
@@ -184,15 +184,13 @@ public final class SecretLoom {
         return shape.isWellFormed();
     }
 
-    private boolean isTyped() {
-        if (!isWellFormed()) {
-            return false;
-        }
+    /** Of a program that is well formed alone. */
+    private Types typesNow() {
         if (typesAreOld) {
             types.find();
             typesAreOld = false;
         }
-        return true;
+        return types;
     }
 
     private boolean rowsAgree(int level) {
@@ -223,11 +221,11 @@ public final class SecretLoom {
     // Sets of places are longs, a bit for each of the 64 places: what is no place has no bit.
 
     private static long bit(int place) {
-        return isBetween(place, MOST_INSTRUCTIONS) ? 1L << place : 0L;
+        return place >= 0 && place < MOST_INSTRUCTIONS ? 1L << place : 0L;
     }
 
     private static boolean holds(long set, int place) {
-        return (set & bit(place)) != 0L;
+        return place >= 0 && place < MOST_INSTRUCTIONS && (set >>> place & 1L) != 0L;
     }
 
     private static int lowest(long set) {
@@ -244,7 +242,7 @@ public final class SecretLoom {
         }
 
         boolean has(int place) {
-            return isBetween(place, size);
+            return place >= 0 && place < size;
         }
 
         int kindAt(int place) {
@@ -354,7 +352,7 @@ public final class SecretLoom {
         }
 
         int heightAt(int place) {
-            return isMet(place) ? heights[place] : 0;
+            return holds(met, place) ? heights[place] : 0;
         }
 
         void find() {
@@ -372,7 +370,7 @@ public final class SecretLoom {
 
         private void goOnFrom(int place) {
             int kind = program.kindAt(place);
-            int staying = heightAt(place) - TAKES[kind];
+            int staying = heights[place] - TAKES[kind];
             int height = staying + PUTS[kind];
             if (staying < 0 || height > MOST_ON_PILE) {
                 wellFormed = false;
@@ -389,7 +387,7 @@ public final class SecretLoom {
         private void comeTo(int place, int height) {
             if (!program.has(place)) {
                 wellFormed = false;
-            } else if (!isMet(place)) {
+            } else if (!holds(met, place)) {
                 met |= bit(place);
                 open |= bit(place);
                 heights[place] = height;
@@ -579,13 +577,21 @@ public final class SecretLoom {
         }
 
         private void spreadFrom(int place) {
+            int kind = program.kindAt(place);
             int taken = takenAt(place);
-            long left = leftBy(place, taken);
-            growPile(program.plainFollower(place), left);
-            growPile(program.otherFollower(place), left);
-            if (program.kindAt(place) == IFZERO) {
+            int staying = shape.heightAt(place) - TAKES[kind];
+            long ofStaying = (1L << (BITS_OF_LEVEL * staying)) - 1L;
+            long left = piles[place] & ofStaying;
+            if (kind == IFZERO) {
+                left |= taken * EACH_ON_PILE & ofStaying;
                 growSurroundings(junctions.regionOf(place), taken);
             }
+            if (PUTS[kind] != 0) {
+                long put = taken | surroundingAt(place) | readBy(place);
+                left |= put << (BITS_OF_LEVEL * staying);
+            }
+            growPile(program.plainFollower(place), left);
+            growPile(program.otherFollower(place), left);
         }
 
         /** All that is taken together: no rule asks for the parts of it. */
@@ -596,21 +602,6 @@ public final class SecretLoom {
                 together |= levelOnPile(place, i);
             }
             return together;
-        }
-
-        private long leftBy(int place, int taken) {
-            int kind = program.kindAt(place);
-            int staying = shape.heightAt(place) - TAKES[kind];
-            long ofStaying = (1L << (BITS_OF_LEVEL * staying)) - 1L;
-            long left = piles[place] & ofStaying;
-            if (kind == IFZERO) {
-                return left | (taken * EACH_ON_PILE & ofStaying);
-            }
-            if (PUTS[kind] == 0) {
-                return left;
-            }
-            long put = taken | surroundingAt(place) | readBy(place);
-            return left | put << (BITS_OF_LEVEL * staying);
         }
 
         private int readBy(int place) {
@@ -743,8 +734,9 @@ public final class SecretLoom {
             height = 0;
             int place = 0;
             int done = 0;
-            for (; done < most && !outcome.isHalted(); done++) {
+            while (done < most && !outcome.isHalted()) {
                 place = doAt(place, memory, outcome);
+                done++;
             }
             return done;
         }

@@ -11,6 +11,7 @@ public final class JunctionTest {
         nearestByWaysNotByPlaces();
         whatIsNone();
         withSixtyFour();
+        oneProgramAfterAnother();
         SHEET.end();
     }
 
@@ -54,7 +55,7 @@ public final class JunctionTest {
     }
 
     private static void nearestByWaysNotByPlaces() {
-        // 1 goes to 7 or 9, both to 4, then to 2, which halts.
+        // 1 goes to 7 or 9, both to 4, and that over 5 to the HALT at 3.
         due(4, 1, Code.LOAD, 0, Code.IFZERO, 9, Code.JUMP, 7, Code.HALT, 0, Code.JUMP, 5, Code.JUMP, 3,
                 Code.HALT, 0, Code.JUMP, 4, Code.HALT, 0, Code.JUMP, 4);
         due(5, 1, Code.LOAD, 0, Code.IFZERO, 4, Code.JUMP, 5, Code.HALT, 0, Code.JUMP, 5, Code.JUMP, 3);
@@ -70,6 +71,22 @@ public final class JunctionTest {
             SHEET.due("junction(" + bad + ")", x.junction(bad), -1);
         }
         due(-1, 1, Code.LOAD, 0, Code.IFZERO, 3, Code.HALT, 0, Code.PUSH, 0);
+    }
+
+    private static void oneProgramAfterAnother() {
+        SecretLoom x = Code.loom(Code.LOAD, 0, Code.IFZERO, 5, Code.LOAD, 0, Code.IFZERO, 0, Code.HALT, 0, Code.HALT, 0);
+        SHEET.due("junction(1) of the first", x.junction(1), 6);
+        Code.load(x, Code.LOAD, 0, Code.IFZERO, 3, Code.JUMP, 3, Code.JUMP, 4, Code.JUMP, 5, Code.HALT, 0);
+        SHEET.due("junction(1) of the second", x.junction(1), 3);
+        SHEET.due("junction(3) of the second", x.junction(3), -1);
+        Code.load(x, Code.LOAD, 0, Code.IFZERO, 0, Code.JUMP, 0);
+        SHEET.due("junction(1) of the third", x.junction(1), -1);
+        x.instruction(Code.HALT, 0);
+        SHEET.due("junction(1) with a HALT that is not met", x.junction(1), -1);
+        Code.load(x, Code.LOAD, 0, Code.IFZERO, 0);
+        SHEET.due("junction(1), not yet well formed", x.junction(1), -1);
+        x.instruction(Code.HALT, 0);
+        SHEET.due("junction(1), now well formed", x.junction(1), 2);
     }
 
     private static void withSixtyFour() {

@@ -204,5 +204,9 @@ public final class RunTest {
                 SHEET.due("out(0, " + i + ", 1)", x.out(0, i, 1), 15 - i);
             }
         }
+        x.run(0, 16);
+        Code.load(x, Code.PUSH, 77, Code.OUT, 0, Code.HALT, 0);
+        SHEET.due("run(0, 40) after a run that left 16", x.run(0, 40), 3);
+        SHEET.due("out(0, 0, 1)", x.out(0, 0, 1), 77);
     }
 }

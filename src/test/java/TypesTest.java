@@ -9,12 +9,14 @@ public final class TypesTest {
         ifzeroRaisesThePile();
         waysComeTogether();
         surroundingOfBranches();
+        surroundingIsLoweredToo();
         surroundingOfLoops();
         surroundingWithoutHalt();
         surroundingWhereOneWayNeverHalts();
         surroundingGoesIntoWhatIsPut();
         regionsWithinRegions();
         levelsFromBehind();
+        levelsThroughManyJumpsBack();
         SHEET.end();
     }
 
@@ -132,6 +134,19 @@ public final class TypesTest {
         dueSurroundings("two HALTs", x, 0, 0, 2, 2);
     }
 
+    private static void surroundingIsLoweredToo() {
+        SecretLoom x = Code.loom(Code.LOAD, 0, Code.IFZERO, 4, Code.PUSH, 1, Code.STORE, 1, Code.HALT, 0);
+        for (int level : new int[] {3, 0, 1, 2, 3, 1, 0}) {
+            x.level(Code.VARIABLE, 0, level);
+            dueSurroundings("level " + level, x, 0, 0, level, level, 0);
+            duePile("level " + level, x, 3, level);
+        }
+        x.level(Code.VARIABLE, 0, 3);
+        SHEET.due("check()", x.check(), 4);
+        Code.load(x, Code.PUSH, 0, Code.IFZERO, 4, Code.PUSH, 1, Code.STORE, 1, Code.HALT, 0);
+        dueSurroundings("another program", x, 0, 0, 0, 0, 0);
+    }
+
     private static void surroundingOfLoops() {
         SecretLoom x = Code.loom(Code.PUSH, 5, Code.STORE, 0, Code.LOAD, 0, Code.IFZERO, 9, Code.LOAD, 0, Code.PUSH, 1,
                 Code.DO, 1, Code.STORE, 0, Code.JUMP, 2, Code.HALT, 0);
@@ -195,5 +210,24 @@ public final class TypesTest {
         x.level(Code.VARIABLE, 7, 0);
         duePile("lowered again", x, 2, 0);
         SHEET.due("check()", x.check(), 0);
+    }
+
+    private static void levelsThroughManyJumpsBack() {
+        SecretLoom x = new SecretLoom();
+        x.instruction(Code.JUMP, 62);
+        x.instruction(Code.OUT, 0);
+        x.instruction(Code.HALT, 0);
+        x.instruction(Code.JUMP, 1);
+        for (int place = 4; place < 62; place++) {
+            x.instruction(Code.JUMP, place - 1);
+        }
+        x.instruction(Code.LOAD, 0);
+        x.instruction(Code.JUMP, 61);
+        x.level(Code.VARIABLE, 0, 1);
+        duePile("many jumps back", x, 1, 1);
+        SHEET.due("check()", x.check(), 2);
+        x.let(0, 0, 6);
+        SHEET.due("run(0, 100)", x.run(0, 100), 64);
+        SHEET.due("out(0, 0, 1)", x.out(0, 0, 1), 6);
     }
 }
