@@ -34,4 +34,38 @@ final class Code {
             }
         }
     }
+
+    /** The same instruction several times, and then others. */
+    static int[] times(int times, int kind, int number, int... then) {
+        int[] code = new int[2 * times + then.length];
+        for (int i = 0; i < times; i++) {
+            code[2 * i] = kind;
+            code[2 * i + 1] = number;
+        }
+        System.arraycopy(then, 0, code, 2 * times, then.length);
+        return code;
+    }
+
+    /** JUMPs from 0 on, each to the place behind it, and then others. */
+    static int[] jumps(int jumps, int... then) {
+        int[] code = times(jumps, JUMP, 0, then);
+        for (int i = 0; i < jumps; i++) {
+            code[2 * i + 1] = i + 1;
+        }
+        return code;
+    }
+
+    static int[] join(int[] code, int... then) {
+        int[] joined = java.util.Arrays.copyOf(code, code.length + then.length);
+        System.arraycopy(then, 0, joined, code.length, then.length);
+        return joined;
+    }
+
+    /** Numbers that are none of 0 .. count - 1: just beside, and those that some narrowing takes for one. */
+    static int[] outside(int count) {
+        return new int[] {
+            Integer.MIN_VALUE, -count - 1, -count, -1, count, count + 1, 2 * count, count + 64, count + 256,
+            1 << 16, Integer.MAX_VALUE - count, Integer.MAX_VALUE
+        };
+    }
 }
