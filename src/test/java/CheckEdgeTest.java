@@ -1,3 +1,5 @@
+import java.util.Arrays;
+
 /** Promises 5 to 8, and the terms of theirs: each sentence that names a boundary. */
 public final class CheckEdgeTest {
     private static final Sheet SHEET = new Sheet("CheckEdgeTest");
@@ -30,6 +32,10 @@ public final class CheckEdgeTest {
         junctionNotWellFormed();
         regionWithoutItsJunction();
         regionIfNoHalt();
+        regionsOfTheFull();
+        regionsOfSeveral();
+        regionsOfAnotherProgram();
+        levelsFoundLate();
         SHEET.end();
     }
 
@@ -42,7 +48,7 @@ public final class CheckEdgeTest {
     }
 
     private static void dueJunction(int want, int place, int... code) {
-        SHEET.due("junction(" + place + ") of " + java.util.Arrays.toString(code), Code.loom(code).junction(place), want);
+        SHEET.due("junction(" + place + ") of " + Arrays.toString(code), Code.loom(code).junction(place), want);
     }
 
     private static SecretLoom withSecret(int level, int... code) {
@@ -71,6 +77,11 @@ public final class CheckEdgeTest {
         SHEET.due("check() without its HALT", x.check(), -1);
         x.instruction(Code.HALT, 0);
         SHEET.due("check() with its HALT", x.check(), 2);
+        // What was not yet looked at, when the first turned out to be wrong, is not met in the next.
+        Code.load(x, Code.PUSH, 0, Code.IFZERO, 4, Code.STORE, 0, Code.HALT, 0, Code.HALT, 0);
+        SHEET.due("check() of a wrong one", x.check(), -1);
+        Code.load(x, Code.HALT, 0, Code.HALT, 0, Code.HALT, 0, Code.HALT, 0, Code.STORE, 0);
+        SHEET.due("check() of a right one after it", x.check(), 0);
     }
 
     private static void theFirstThatIsNotSafe() {
@@ -241,6 +252,13 @@ public final class CheckEdgeTest {
                 Code.times(61, Code.JUMP, 63, Code.HALT, 0)));
         int[] full = Code.jumps(60, Code.LOAD, 0, Code.IFZERO, 62, Code.JUMP, 63, Code.HALT, 0);
         dueJunction(62, 61, full);
+        // All 64 lead to the one HALT, and 62 is come to by a jump alone.
+        int[] head = {Code.PUSH, 0, Code.LOAD, 0, Code.IFZERO, 62, Code.STORE, 0};
+        int[] chain = Code.jumps(62, Code.IFZERO, 4, Code.HALT, 0);
+        System.arraycopy(head, 0, chain, 0, head.length);
+        chain[2 * 61 + 1] = 63;
+        dueJunction(63, 62, chain);
+        dueJunction(63, 2, chain);
     }
 
     private static void junctionOtherThanItself() {
@@ -328,6 +346,8 @@ public final class CheckEdgeTest {
                 withSecret(3, Code.LOAD, 0, Code.IFZERO, 3, Code.HALT, 0, Code.HALT, 0), 0, 0, 3, 3);
         dueSurroundings("a way without an end",
                 withSecret(3, Code.LOAD, 0, Code.IFZERO, 3, Code.HALT, 0, Code.JUMP, 3), 0, 0, 0, 3);
+        dueSurroundings("the first place alone", withSecret(3, Code.JUMP, 4, Code.HALT, 0, Code.HALT, 0, Code.IFZERO, 0,
+                Code.LOAD, 1, Code.IFZERO, 7, Code.HALT, 0, Code.LOAD, 0, Code.JUMP, 3), 3, -1, -1, 0, 0, 0, 0, 0, 0);
         // Round to itself: it is in its own region.
         dueSurroundings("a loop", withSecret(3, Code.JUMP, 1, Code.LOAD, 0, Code.IFZERO, 1, Code.HALT, 0), 0, 3, 3, 0);
     }
@@ -340,5 +360,66 @@ public final class CheckEdgeTest {
                 withSecret(2, Code.LOAD, 0, Code.IFZERO, 2, Code.JUMP, 3, Code.JUMP, 2), 0, 0, 2, 2);
         dueSurroundings("round to itself",
                 withSecret(3, Code.JUMP, 1, Code.LOAD, 0, Code.IFZERO, 1, Code.JUMP, 1, Code.HALT, 0), 0, 3, 3, 3, -1);
+    }
+
+    private static void regionsOfTheFull() {
+        SHEET.sentence("\"behind the HALT\" counts as an instruction that all HALTs lead to");
+        // Two HALTs, at 4 and 63, and a way back to 0: all of it is the region of 1.
+        int[] back = {Code.LOAD, 0, Code.IFZERO, 63, Code.LOAD, 1, Code.IFZERO, 0};
+        SecretLoom x = withSecret(2, Code.join(back, Code.times(60, Code.HALT, 0)));
+        SHEET.due("junction(1)", x.junction(1), 64);
+        SHEET.due("surrounding(0)", x.surrounding(0), 2);
+        SHEET.due("surrounding(63)", x.surrounding(63), 2);
+        // No HALT, and the last place is where one way ends.
+        int[] on = {Code.LOAD, 0, Code.IFZERO, 63, Code.JUMP, 2};
+        x = withSecret(1, Code.join(on, Code.times(61, Code.JUMP, 63)));
+        SHEET.due("junction(1) without a HALT", x.junction(1), -1);
+        SHEET.due("surrounding(0) without a HALT", x.surrounding(0), 0);
+        SHEET.due("surrounding(2) without a HALT", x.surrounding(2), 1);
+        SHEET.due("surrounding(63) without a HALT", x.surrounding(63), 1);
+    }
+
+    private static void regionsOfSeveral() {
+        SHEET.sentence("the level of what it takes is below the surrounding of all instructions of its region");
+        int[] code = {Code.LOAD, 0, Code.IFZERO, 3, Code.JUMP, 3, Code.LOAD, 1, Code.IFZERO, 6, Code.JUMP, 6,
+            Code.LOAD, 2, Code.IFZERO, 9, Code.JUMP, 9, Code.HALT, 0};
+        for (int level = 0; level < 4; level++) {
+            SecretLoom x = Code.loom(code);
+            x.level(Code.VARIABLE, 0, level);
+            x.level(Code.VARIABLE, 1, 3 - level);
+            x.level(Code.VARIABLE, 2, level);
+            dueSurroundings("one behind another", x, 0, 0, level, 0, 0, 3 - level, 0, 0, level, 0);
+        }
+        int[] within = {Code.LOAD, 0, Code.IFZERO, 6, Code.LOAD, 1, Code.IFZERO, 5, Code.JUMP, 5, Code.JUMP, 6,
+            Code.HALT, 0};
+        for (int level = 0; level < 4; level++) {
+            SecretLoom x = Code.loom(within);
+            x.level(Code.VARIABLE, 0, 1);
+            x.level(Code.VARIABLE, 1, level);
+            // What is loaded within has the surrounding of the outer one too.
+            dueSurroundings("one within another", x, 0, 0, 1, 1, level | 1, 1, 0);
+        }
+    }
+
+    private static void regionsOfAnotherProgram() {
+        SHEET.sentence("The REGION of an IFZERO are the instructions that can be come to from its followers");
+        SecretLoom x = withSecret(3, Code.LOAD, 0, Code.IFZERO, 4, Code.JUMP, 5, Code.HALT, 0, Code.JUMP, 5,
+                Code.HALT, 0);
+        dueSurroundings("the first", x, 0, 0, 3, -1, 3, 0);
+        Code.load(x, Code.LOAD, 0, Code.IFZERO, 3, Code.JUMP, 3, Code.JUMP, 4, Code.JUMP, 5, Code.HALT, 0);
+        dueSurroundings("the second", x, 0, 0, 3, 0, 0, 0);
+        Code.load(x, Code.LOAD, 1, Code.IFZERO, 3, Code.JUMP, 3, Code.HALT, 0);
+        dueSurroundings("the third", x, 0, 0, 0, 0);
+    }
+
+    private static void levelsFoundLate() {
+        SHEET.sentence("PUSH puts its surrounding");
+        // The level comes to 4 by a jump back, and from there to what stands before it.
+        SecretLoom x = withSecret(1, Code.JUMP, 6, Code.PUSH, 7, Code.STORE, 1, Code.HALT, 0, Code.IFZERO, 1,
+                Code.JUMP, 3, Code.LOAD, 0, Code.JUMP, 4);
+        SHEET.due("junction(4)", x.junction(4), 3);
+        dueSurroundings("a region before its IFZERO", x, 0, 1, 1, 0, 0, 1, 0, 0);
+        SHEET.due("pile(2, 0)", x.pile(2, 0), 1);
+        SHEET.due("check()", x.check(), 3);
     }
 }

@@ -74,7 +74,8 @@ public final class JunctionTest {
     }
 
     private static void oneProgramAfterAnother() {
-        SecretLoom x = Code.loom(Code.LOAD, 0, Code.IFZERO, 5, Code.LOAD, 0, Code.IFZERO, 0, Code.HALT, 0, Code.HALT, 0);
+        SecretLoom x = Code.loom(Code.LOAD, 0, Code.IFZERO, 5, Code.LOAD, 0, Code.IFZERO, 0, Code.HALT, 0,
+                Code.HALT, 0);
         SHEET.due("junction(1) of the first", x.junction(1), 6);
         Code.load(x, Code.LOAD, 0, Code.IFZERO, 3, Code.JUMP, 3, Code.JUMP, 4, Code.JUMP, 5, Code.HALT, 0);
         SHEET.due("junction(1) of the second", x.junction(1), 3);

@@ -10,6 +10,8 @@ public final class RunEdgeTest {
 
     public static void main(String[] args) {
         memoryIsChanged();
+        pileIsEmptyAgain();
+        whatIsNotTakenStays();
         instructionsAtMost();
         haltCountsToo();
         tenThousandIfMore();
@@ -32,7 +34,8 @@ public final class RunEdgeTest {
     private static void memoryIsChanged() {
         SHEET.sentence("11: is run with memory m (which is changed), from instruction 0 on");
         for (int m = 0; m < 2; m++) {
-            SecretLoom x = Code.loom(Code.PUSH, 4, Code.STORE, 7, Code.PUSH, 7, Code.PUSH, 5, Code.LAY, 1, Code.HALT, 0);
+            SecretLoom x = Code.loom(Code.PUSH, 4, Code.STORE, 7, Code.PUSH, 7, Code.PUSH, 5, Code.LAY, 1,
+                    Code.HALT, 0);
             x.run(m, 10);
             SHEET.due("memory(" + m + ", 7)", x.memory(m, 7), 4);
             SHEET.due("memory(" + m + ", 23)", x.memory(m, 23), 5);
@@ -40,6 +43,39 @@ public final class RunEdgeTest {
             SHEET.due("memory of the other, 23", x.memory(1 - m, 23), 0);
             x.run(m, 1);
             SHEET.due("run(.., 4), once more from 0 on", x.run(m, 4), 4);
+        }
+    }
+
+    private static void pileIsEmptyAgain() {
+        SHEET.sentence("from instruction 0 on with an empty pile");
+        SecretLoom x = new SecretLoom();
+        for (int round = 0; round < 3; round++) {
+            Code.load(x, Code.times(16, Code.PUSH, 9, Code.HALT, 0));
+            SHEET.due("run(0, 50) that leaves 16", x.run(0, 50), 17);
+            Code.load(x, Code.PUSH, round, Code.OUT, 0, Code.HALT, 0);
+            SHEET.due("run(0, 50) after it", x.run(0, 50), 3);
+            SHEET.due("out(0, 0, 1) after it", x.out(0, 0, 1), round);
+        }
+    }
+
+    private static void whatIsNotTakenStays() {
+        SHEET.sentence("the upper one b and the lower one a are taken, and put is");
+        int[] takes = {0, 0, 1, 2, 0, 1, 1, 2, 1};
+        int[] puts = {1, 1, 0, 1, 0, 0, 1, 0, 0};
+        for (int kind = 0; kind <= Code.OUT; kind++) {
+            int place = 3 + takes[kind];
+            int number = kind == Code.JUMP || kind == Code.IFZERO ? place + 1 : 1;
+            int[] code = Code.join(new int[] {Code.PUSH, 21, Code.PUSH, 22, Code.PUSH, 23},
+                    Code.times(takes[kind], Code.PUSH, 5, kind, number));
+            code = Code.join(code, Code.times(puts[kind], Code.STORE, 0));
+            code = Code.join(code, Code.OUT, 2, Code.OUT, 2, Code.OUT, 2, Code.HALT, 0);
+            SecretLoom x = Code.loom(code);
+            SHEET.due("run(0, 50) with kind " + kind, x.run(0, 50), code.length / 2);
+            int before = kind == Code.OUT ? 1 : 0;
+            SHEET.due("ran(0, 1) with kind " + kind, x.ran(0, 1), before + 3);
+            for (int i = 0; i < 3; i++) {
+                SHEET.due("what stays under kind " + kind, x.out(0, before + i, 1), 23 - i);
+            }
         }
     }
 
@@ -155,7 +191,7 @@ public final class RunEdgeTest {
     }
 
     private static void noSuchMemory() {
-        SHEET.sentence("11: NONE, and nothing happens, if there is no such memory");
+        SHEET.sentence("11: or there is no such memory");
         for (int m : Code.outside(2)) {
             Busy.refused(SHEET, "run(" + m + ", 50)", -1, x -> x.run(m, 50));
             Busy.refused(SHEET, "run(" + m + ", 0)", -1, x -> x.run(m, 0));

@@ -11,6 +11,7 @@ public final class TermsEdgeTest {
         sixtyFourInstructions();
         wrapAround();
         lessAndEqual();
+        bitByBit();
         ifItIsZero();
         getModuloEight();
         layModuloEight();
@@ -24,6 +25,7 @@ public final class TermsEdgeTest {
         asManyWhateverWay();
         onlyWhatIsMet();
         whatStaysOnThePile();
+        whatIsTakenIsGone();
         ifzeroLeavesEachInt();
         SHEET.end();
     }
@@ -132,6 +134,16 @@ public final class TermsEdgeTest {
         }
     }
 
+    private static void bitByBit() {
+        SHEET.sentence("5 a and b bit by bit, 6 a or b");
+        SHEET.due("12 and 10", result(5, 12, 10), 8);
+        SHEET.due("12 or 10", result(6, 12, 10), 14);
+        SHEET.due("-1 and least", result(5, -1, Integer.MIN_VALUE), Integer.MIN_VALUE);
+        SHEET.due("most or least", result(6, Integer.MAX_VALUE, Integer.MIN_VALUE), -1);
+        SHEET.due("0 and -1", result(5, 0, -1), 0);
+        SHEET.due("0 or 0", result(6, 0, 0), 0);
+    }
+
     private static void ifItIsZero() {
         SHEET.sentence("one is taken; if it is 0, on at t");
         SecretLoom x = Code.loom(Code.LOAD, 0, Code.IFZERO, 3, Code.HALT, 0, Code.PUSH, 0, Code.OUT, 0, Code.HALT, 0);
@@ -236,8 +248,10 @@ public final class TermsEdgeTest {
     private static void hasWhatIsTakenOnEachWay() {
         SHEET.sentence("from instruction 0 on with an empty pile, whatever way");
         dueCheck("a STORE at once", -1, Code.STORE, 0, Code.HALT, 0);
-        dueCheck("too few behind the jump", -1, Code.PUSH, 1, Code.IFZERO, 3, Code.HALT, 0, Code.STORE, 0, Code.HALT, 0);
-        dueCheck("too few without the jump", -1, Code.PUSH, 0, Code.IFZERO, 4, Code.STORE, 0, Code.HALT, 0, Code.HALT, 0);
+        dueCheck("too few behind the jump", -1, Code.PUSH, 1, Code.IFZERO, 3, Code.HALT, 0, Code.STORE, 0,
+                Code.HALT, 0);
+        dueCheck("too few without the jump", -1, Code.PUSH, 0, Code.IFZERO, 4, Code.STORE, 0, Code.HALT, 0,
+                Code.HALT, 0);
         dueCheck("too few after others", -1, Code.PUSH, 0, Code.STORE, 0, Code.PUSH, 0, Code.DO, 0, Code.HALT, 0);
         dueCheck("just enough", 0, Code.PUSH, 1, Code.PUSH, 1, Code.IFZERO, 5, Code.STORE, 0, Code.HALT, 0,
                 Code.STORE, 0, Code.HALT, 0);
@@ -262,7 +276,8 @@ public final class TermsEdgeTest {
         SHEET.sentence("never more than 16");
         dueCheck("GET with 16", 0, Code.times(16, Code.PUSH, 0, Code.GET, 0, Code.HALT, 0));
         dueCheck("DO with 16, and one more", 0, Code.times(16, Code.PUSH, 0, Code.DO, 0, Code.PUSH, 0, Code.HALT, 0));
-        dueCheck("GET with 16, and one more", -1, Code.times(16, Code.PUSH, 0, Code.GET, 0, Code.PUSH, 0, Code.HALT, 0));
+        dueCheck("GET with 16, and one more", -1,
+                Code.times(16, Code.PUSH, 0, Code.GET, 0, Code.PUSH, 0, Code.HALT, 0));
         dueCheck("DO with 16, and two more", -1,
                 Code.times(16, Code.PUSH, 0, Code.DO, 0, Code.PUSH, 0, Code.PUSH, 0, Code.HALT, 0));
         int[] sixteenOut = Code.times(16, Code.OUT, 0, Code.HALT, 0);
@@ -306,7 +321,8 @@ public final class TermsEdgeTest {
 
     private static void whatStaysOnThePile() {
         SHEET.sentence("what stays on the pile has the level that it had");
-        int[] takes = {0, 0, 1, 2, 0, 0, 1, 2, 1};
+        int[] takes = {0, 0, 1, 2, 0, 1, 1, 2, 1};
+        int[] puts = {1, 1, 0, 1, 0, 0, 1, 0, 0};
         for (int kind = 0; kind <= Code.OUT; kind++) {
             if (kind == Code.IFZERO) {
                 continue;
@@ -320,12 +336,28 @@ public final class TermsEdgeTest {
             for (int i = 0; i < 5 - takes[kind]; i++) {
                 SHEET.due("pile(6, " + i + ") behind kind " + kind, x.pile(6, i), had[i]);
             }
+            int there = 5 - takes[kind] + puts[kind];
+            SHEET.due("pile(6, " + there + ") behind kind " + kind, x.pile(6, there), -1);
         }
+    }
+
+    private static void whatIsTakenIsGone() {
+        SHEET.sentence("what stays on the pile has the level that it had");
+        SecretLoom x = Code.loom(Code.LOAD, 3, Code.LOAD, 3, Code.LAY, 0, Code.PUSH, 0, Code.PUSH, 0, Code.HALT, 0);
+        x.level(Code.VARIABLE, 3, 3);
+        SHEET.due("pile(2, 0) before it is taken", x.pile(2, 0), 3);
+        SHEET.due("pile(4, 0), put where it was", x.pile(4, 0), 0);
+        SHEET.due("pile(5, 1), put where it was", x.pile(5, 1), 0);
+        Code.load(x, Code.PUSH, 0, Code.LOAD, 3, Code.STORE, 3, Code.PUSH, 0, Code.HALT, 0);
+        SHEET.due("pile(2, 1) before it is taken", x.pile(2, 1), 3);
+        SHEET.due("pile(4, 0), what stays", x.pile(4, 0), 0);
+        SHEET.due("pile(4, 1), put where it was", x.pile(4, 1), 0);
     }
 
     private static void ifzeroLeavesEachInt() {
         SHEET.sentence("but IFZERO leaves each int with its level and that of what it took together");
-        SecretLoom x = Code.loom(Code.times(15, Code.LOAD, 1, Code.LOAD, 2, Code.IFZERO, 18, Code.HALT, 0, Code.HALT, 0));
+        SecretLoom x = Code.loom(
+                Code.times(15, Code.LOAD, 1, Code.LOAD, 2, Code.IFZERO, 18, Code.HALT, 0, Code.HALT, 0));
         x.level(Code.VARIABLE, 1, 1);
         x.level(Code.VARIABLE, 2, 2);
         for (int i = 0; i < 15; i++) {
