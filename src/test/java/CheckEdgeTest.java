@@ -364,12 +364,15 @@ public final class CheckEdgeTest {
 
     private static void regionsOfTheFull() {
         SHEET.sentence("\"behind the HALT\" counts as an instruction that all HALTs lead to");
-        // Two HALTs, at 4 and 63, and a way back to 0: all of it is the region of 1.
+        // Two HALTs, at 62 and 63, and a way back to 0: all 64 are the region of 1.
+        int[] code = Code.jumps(62, Code.HALT, 0, Code.HALT, 0);
         int[] back = {Code.LOAD, 0, Code.IFZERO, 63, Code.LOAD, 1, Code.IFZERO, 0};
-        SecretLoom x = withSecret(2, Code.join(back, Code.times(60, Code.HALT, 0)));
+        System.arraycopy(back, 0, code, 0, back.length);
+        SecretLoom x = withSecret(2, code);
         SHEET.due("junction(1)", x.junction(1), 64);
-        SHEET.due("surrounding(0)", x.surrounding(0), 2);
-        SHEET.due("surrounding(63)", x.surrounding(63), 2);
+        for (int place = 0; place < 64; place++) {
+            SHEET.due("surrounding(" + place + ")", x.surrounding(place), 2);
+        }
         // No HALT, and the last place is where one way ends.
         int[] on = {Code.LOAD, 0, Code.IFZERO, 63, Code.JUMP, 2};
         x = withSecret(1, Code.join(on, Code.times(61, Code.JUMP, 63)));

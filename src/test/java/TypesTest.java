@@ -17,6 +17,7 @@ public final class TypesTest {
         regionsWithinRegions();
         levelsFromBehind();
         levelsThroughManyJumpsBack();
+        levelsThatGoRoundSeveralTimes();
         SHEET.end();
     }
 
@@ -229,5 +230,28 @@ public final class TypesTest {
         x.let(0, 0, 6);
         SHEET.due("run(0, 100)", x.run(0, 100), 64);
         SHEET.due("out(0, 0, 1)", x.out(0, 0, 1), 6);
+    }
+
+    /**
+     * Of four ints on the pile the upmost has a level. Each of the three ways from 39 brings it one int
+     * further down, and then leads back to 39 over a long row of jumps, from 38 to 1.
+     */
+    private static void levelsThatGoRoundSeveralTimes() {
+        int[] code = Code.times(39, Code.JUMP, 0,
+                Code.LOAD, 0, Code.IFZERO, 44, Code.DO, 0, Code.PUSH, 0, Code.JUMP, 38,
+                Code.LOAD, 0, Code.IFZERO, 51, Code.STORE, 0, Code.DO, 0, Code.PUSH, 0, Code.PUSH, 0, Code.JUMP, 38,
+                Code.STORE, 0, Code.STORE, 0, Code.DO, 0, Code.PUSH, 0, Code.PUSH, 0, Code.PUSH, 0, Code.JUMP, 38,
+                Code.PUSH, 0, Code.PUSH, 0, Code.PUSH, 0, Code.LOAD, 1, Code.JUMP, 38);
+        code[1] = 58;
+        code[3] = 39;
+        for (int place = 2; place < 39; place++) {
+            code[2 * place + 1] = place - 1;
+        }
+        SecretLoom x = Code.loom(code);
+        duePile("all at 0", x, 39, 0, 0, 0, 0);
+        x.level(Code.VARIABLE, 1, 3);
+        duePile("round three times", x, 39, 3, 3, 3, 3);
+        duePile("on the last way", x, 58);
+        SHEET.due("check()", x.check(), 47);
     }
 }
