@@ -13,6 +13,7 @@ public final class SameEdgeTest {
         belowTheLevel();
         eachWithItsChannel();
         oneMoreOnOneSide();
+        inAnotherOrder();
         theSixtyFourth();
         whateverTheirChannels();
         levelsAsTheyAreNow();
@@ -113,6 +114,21 @@ public final class SameEdgeTest {
         dueSame("one and two", ran(one, two), 0, 0, 0, 0);
         dueSame("two and one", ran(two, one), 0, 0, 0, 0);
         dueSame("two and two", ran(two, two), 1, 1, 1, 1);
+    }
+
+    private static void inAnotherOrder() {
+        SHEET.sentence("14: the rows of ints, each with its channel, that came out");
+        int[] one = {Code.PUSH, 1, Code.OUT, 1, Code.PUSH, 2, Code.OUT, 2, Code.HALT, 0};
+        int[] other = {Code.PUSH, 2, Code.OUT, 2, Code.PUSH, 1, Code.OUT, 1, Code.HALT, 0};
+        SecretLoom x = ran(one, other);
+        dueSame("two channels in another order", x, 0, 0, 0, 0);
+        x.level(Code.CHANNEL, 1, 1);
+        x.level(Code.CHANNEL, 2, 2);
+        // The order is seen by those alone who see both channels.
+        dueSame("two channels of two owners in another order", x, 1, 1, 1, 0);
+        dueSame("two channels of two owners in one order", ran(one, one), 1, 1, 1, 1);
+        int[] turned = {Code.PUSH, 2, Code.OUT, 1, Code.PUSH, 1, Code.OUT, 2, Code.HALT, 0};
+        dueSame("the ints in another order", ran(one, turned), 0, 0, 0, 0);
     }
 
     private static SecretLoom sevens(int first, int second) {

@@ -1,3 +1,5 @@
+import java.util.function.ToIntFunction;
+
 /** The boundaries that the document's terms name, each by its own words. */
 public final class TermsEdgeTest {
     private static final Sheet SHEET = new Sheet("TermsEdgeTest");
@@ -5,6 +7,7 @@ public final class TermsEdgeTest {
 
     public static void main(String[] args) {
         fiveHundredAndTwelveCalls();
+        eachCallUpToTheLast();
         belowAnother();
         twoTogether();
         zeroAtFirst();
@@ -43,6 +46,38 @@ public final class TermsEdgeTest {
         SHEET.due("the 510th call, level(0, 0, 2)", x.level(Code.VARIABLE, 0, 2), true);
         SHEET.due("the 511th call, check()", x.check(), 4);
         SHEET.due("the 512th call, run(0, 50)", x.run(0, 50), Busy.SIZE);
+    }
+
+    private static void eachCallUpToTheLast() {
+        SHEET.sentence("An object is used for at most 512 calls after it has been made");
+        upToTheLast("check()", 0, x -> x.check());
+        upToTheLast("surrounding(2)", 1, x -> x.surrounding(2));
+        upToTheLast("pile(1, 0)", 1, x -> x.pile(1, 0));
+        upToTheLast("junction(1)", 4, x -> x.junction(1));
+        upToTheLast("level(2, 1, 0)", 1, x -> x.level(Code.CHANNEL, 1, 0) ? 1 : 0);
+        upToTheLast("let(0, 0, 7)", 1, x -> x.let(0, 0, 7) ? 1 : 0);
+        upToTheLast("lay(1, 1, 7, 7)", 1, x -> x.lay(1, 1, 7, 7) ? 1 : 0);
+        upToTheLast("run(0, 50)", Busy.SIZE, x -> x.run(0, 50));
+        upToTheLast("run(1, 0)", 0, x -> x.run(1, 0));
+        upToTheLast("ran(0, 1)", 2, x -> x.ran(0, 1));
+        upToTheLast("out(0, 0, 1)", 5, x -> x.out(0, 0, 1));
+        upToTheLast("same(0)", 0, x -> x.same(0));
+        upToTheLast("memory(1, 23)", 124, x -> x.memory(1, 23));
+        SecretLoom x = new SecretLoom();
+        for (int calls = 0; calls < 512; calls++) {
+            if (calls % 65 == 64) {
+                x.clear();
+            } else {
+                SHEET.due("instruction(9, 0), call " + (calls + 1), x.instruction(Code.HALT, 0), calls % 65);
+            }
+        }
+    }
+
+    private static void upToTheLast(String call, int want, ToIntFunction<SecretLoom> made) {
+        SecretLoom x = Busy.loom();
+        for (int calls = 72; calls < 512; calls++) {
+            SHEET.due(call + ", call " + (calls + 1), made.applyAsInt(x), want);
+        }
     }
 
     private static void belowAnother() {
