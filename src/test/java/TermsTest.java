@@ -1,3 +1,5 @@
+import java.util.Arrays;
+
 /** The sentences of the document's terms, with ordinary inputs: each kind of instruction, each rule of the types. */
 public final class TermsTest {
     private static final Sheet SHEET = new Sheet("TermsTest");
@@ -376,7 +378,7 @@ public final class TermsTest {
         for (int[] body : bodies) {
             SecretLoom x = within(1, body);
             x.level(Code.VARIABLE, 1, 3);
-            SHEET.due("check() of kind " + body[body.length - 4 < 0 ? 0 : body.length - 4], x.check(), 0);
+            SHEET.due("check() of " + Arrays.toString(body), x.check(), 0);
             SHEET.due("surrounding(4)", x.surrounding(FIRST), 3);
         }
     }
