@@ -365,7 +365,7 @@ public final class TermsTest {
     }
 
     private static void othersAreSafe() {
-        SHEET.sentence("SAFE: of STORE x .. of LAY .. of OUT");
+        SHEET.sentence("5: 0 if the program is well formed and all instructions that are met are safe");
         int[][] bodies = {
             {Code.HALT, 0},
             {Code.PUSH, 1, Code.HALT, 0},
